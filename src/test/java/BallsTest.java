@@ -5,6 +5,7 @@ public final class BallsTest {
     public static void main(String[] args) {
         hits();
         homes();
+        mostBalls();
         sends();
         row();
         undo();
@@ -59,6 +60,21 @@ public final class BallsTest {
         CHECK.due("8 one home, and NEXT beyond it", x.hits(1), 3);
         CHECK.due("8 count(5)", x.count(5), 8);
         CHECK.due("8 count(4): home waits again", x.count(4), 0);
+    }
+
+    /** Far beyond the 512 calls of the document, to come to its 9999 balls and points. */
+    private static void mostBalls() {
+        PostRounders x = new PostRounders();
+        Check.batters(x, 4, 5);
+        for (int ball = 1; ball <= 9999; ball++) {
+            CHECK.due("8 hits(9), ball " + ball, x.hits(9), ball < 5000 ? 2 : ball == 5000 ? 1 : 0);
+        }
+        CHECK.due("8 count(5)", x.count(5), 9999);
+        CHECK.due("8 count(6)", x.count(6), 9999);
+        CHECK.due("8 hits(9)", x.hits(9), -3);
+        CHECK.due("14 score(8) goes beyond", x.score(8), 16);
+        CHECK.due("11 undo()", x.undo(), 9998);
+        CHECK.due("8 hits(0)", x.hits(0), 0);
     }
 
     private static void sends() {

@@ -170,6 +170,14 @@ public final class FieldTest {
         fault("fiel 3;", 0);
         fault(" fields 3;", 1);
         fault("Field 3;", 0);
+        fault("wield 3;", 0);
+        fault("fiels 3;", 0);
+        fault("fieldz 3;", 0);
+        fault("fielda 3;", 0);
+        fault("field3field", 6);
+        fault("field 0;batten 0 1;", 8);
+        fault("field 0;call 1;", 8);
+        fault("field 0;bald 1;", 8);
         fault("batter 0 1;", 0);
         fault("ball 1;", 0);
         fault("3;", 0);

@@ -26,7 +26,39 @@ public final class ModelTest {
                 }
             }
         }
+        for (int seed = 0; seed < 4000; seed++) {
+            new ModelTest(seed).restingPairs();
+        }
         CHECK.end();
+    }
+
+    /** Pairs that rest are few, so they have states of their own. */
+    private void restingPairs() {
+        int kind = random.nextInt(6);
+        due("field(" + kind + ")", x.field(kind), m.field(kind));
+        int size = 1 + random.nextInt(5);
+        for (int i = 0; i < size; i++) {
+            int batterKind = random.nextInt(6);
+            int legs = 1 + random.nextInt(5);
+            due("batter", x.batter(batterKind, legs), m.batter(batterKind, legs));
+        }
+        for (int k = 0; k < 4; k++) {
+            int h = random.nextInt(10);
+            due("row", x.row(k, h), m.row(k, h));
+        }
+        int balls = random.nextInt(8);
+        for (int k = 0; k < balls; k++) {
+            int h = 1 + random.nextInt(9);
+            due("hits", x.hits(h), m.hits(h));
+        }
+        int found = m.captains(-1);
+        due("captains(-1)", x.captains(-1), found);
+        for (int k = 0; k <= found; k++) {
+            due("captains(" + k + ")", x.captains(k), m.captains(k));
+        }
+        for (int n = 1; n <= 8; n++) {
+            due("against(" + n + ", 0)", x.against(n, 0), m.against(n, 0));
+        }
     }
 
     /** A number of least .. most, now and then one beside them. */
