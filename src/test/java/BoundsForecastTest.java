@@ -16,6 +16,7 @@ public final class BoundsForecastTest {
         orderLastOfAll();
         orderRoundAndRound();
         orderAllWait();
+        orderFromNowOn();
         orderByTryingAll();
         againstEachKind();
         againstLeastOfLikeOnes();
@@ -204,6 +205,27 @@ public final class BoundsForecastTest {
         CHECK.due("15 order(2, 0)", x.order(2, 0), 1);
         CHECK.due("15 order(2, 1)", x.order(2, 1), 0);
         CHECK.due("14 score(2) none the less", x.score(2), 0);
+    }
+
+    /** "from now on" holds for ORDER, too: the balls' numbers go on, and the bowler is the one there is. */
+    private static void orderFromNowOn() {
+        PostRounders x = with(HOME_BY_ANY_HIT, 5, 0, 1);
+        // the plain one first, home by the greedy one's hit: 0, 3, 0, 3
+        CHECK.due("15 order(4, -1), a plain bowler", x.order(4, -1), 6);
+        x.bowler(3);
+        CHECK.due("15 order(1, -1), ball 1 by a spinner", x.order(1, -1), 2);
+        x.hits(9);
+        x.sends(0);
+        x.hits(9);
+        x.sends(0);
+        x.hits(9);
+        CHECK.due("15 count(6)", x.count(6), 3);
+        CHECK.due("15 order(1, -1), ball 4 by a spinner", x.order(1, -1), 0);
+        CHECK.due("15 order(1, 0): all like, the first", x.order(1, 0), 0);
+        // ball 4 puts out whoever bats by it: best the plain one
+        CHECK.due("15 order(2, -1), balls 4 and 5", x.order(2, -1), 2);
+        CHECK.due("15 order(2, 0), balls 4 and 5", x.order(2, 0), 1);
+        CHECK.due("15 order(8, -1), out by ball 8", x.order(8, -1), 6);
     }
 
     /** As many objects as there are orders, with their batters in that order: SCORE of each. */

@@ -12,6 +12,7 @@ public final class BoundsReadTest {
         endsTooEarly();
         endsInsideAWord();
         wordThatIsNone();
+        oneLetterOff();
         wordsNeighbours();
         fieldAgain();
         anythingAheadOfField();
@@ -114,6 +115,36 @@ public final class BoundsReadTest {
         fault(ONE + " zzzzzzzzzz", 20);
         fault("fieldbatter", 0);
         fault(FIELD + "ballball 1;", 8);
+    }
+
+    /** Each single letter counts, the first and the last of a word and of a .. z as well. */
+    private static void oneLetterOff() {
+        for (char other : new char[] {'a', 'z'}) {
+            for (int k = 0; k <= 5; k++) {
+                wordWith("", "field", k, other, " 0;");
+                wordWith(FIELD, "batter", k, other, " 0 1;");
+                wordWith(ONE, "ball", k, other, " 1;");
+            }
+        }
+        fault("wield 0;", 0);
+        fault("fielz 0;", 0);
+        fault("fieldz 0;", 0);
+        fault("zfield 0;", 0);
+        fault("field0z;", 6);
+        fault("field 0z;", 7);
+        fault("field0a;", 6);
+        fault(FIELD + "latter 0 1;", 8);
+        fault(ONE + "call 1;", 19);
+        fault(ONE + "z", 19);
+    }
+
+    private static void wordWith(String ahead, String word, int k, char other, String behind) {
+        if (k <= word.length()) {
+            fault(ahead + word.substring(0, k) + other + word.substring(k) + behind, ahead.length());
+        }
+        if (k < word.length() && word.charAt(k) != other) {
+            fault(ahead + word.substring(0, k) + other + word.substring(k + 1) + behind, ahead.length());
+        }
     }
 
     /** Words that stand in the wrong place. */
