@@ -31,6 +31,7 @@ public final class BoundsWhoItIsTest {
         captainsFirstFourHits();
         captainsOnlyWhoWait();
         captainsNoPair();
+        captainsFewestByPlain();
         captainsByTryingAll();
         daysNone();
         daysUntilDone();
@@ -390,6 +391,30 @@ public final class BoundsWhoItIsTest {
         Check.row(x, 2, 7, 2, 7);
         CHECK.due("27 captains(-1)", x.captains(-1), 0);
         CHECK.due("27 captains(0)", x.captains(0), -5);
+    }
+
+    /** "no other KIND fewer against i": PLAIN, the first of them, is looked at as well. */
+    private static void captainsFewestByPlain() {
+        int[] due = {2, 3, 3, 4, 3, 3};
+        for (int kind = 0; kind <= 5; kind++) {
+            PostRounders x = fewestByPlain();
+            x.sends(1);
+            x.bowler(kind);
+            CHECK.due("27 score(4) of batter 1 by bowler " + kind, x.score(4), due[kind]);
+        }
+        // nobody gets more than batter 1 against a demon, but a plain bowler would give fewer
+        PostRounders x = fewestByPlain();
+        CHECK.due("27 captains(-1): 14 does not rest", x.captains(-1), 0);
+        CHECK.due("27 captains(0)", x.captains(0), -5);
+    }
+
+    private static PostRounders fewestByPlain() {
+        PostRounders x = new PostRounders();
+        Check.batters(x, 1, 5, 0, 4, 5, 2);
+        x.hits(2);
+        x.hits(9);
+        Check.row(x, 0, 9, 9, 6);
+        return x;
     }
 
     /** Each batter that waits sent in under each bowler, and SCORE looked at. */
